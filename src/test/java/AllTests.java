@@ -1,0 +1,15 @@
+/** Every test of the project; told where the source of the class is. */
+public final class AllTests {
+    private AllTests() {
+    }
+
+    public static void main(String[] args) {
+        Check.holds("the source is told", args.length == 1);
+        if (args.length == 1) {
+            RulesTest.runAll(args[0]);
+        }
+        PromiseTest.runAll();
+        ModelTest.runAll();
+        Check.tellAndEnd();
+    }
+}
