@@ -187,15 +187,14 @@ final class ModelTest {
         }
     }
 
+    /** Run to and fro so that the swing grows each time. */
     private static ModelTest pumped(String run) {
         ModelTest t = new ModelTest(run, 1);
         t.write("e999;k9,40,40;c0,450,60,0;c1,999,60,0;");
         t.lay();
-        for (int i = 0; i < 40; i++) {
+        for (int i = 0; i < 38; i++) {
             t.command(0, i % 2 == 0 ? 27 : -27);
             t.tick(6);
-            t.crane(0, 4);
-            t.crane(0, 5);
         }
         return t;
     }
@@ -203,21 +202,21 @@ final class ModelTest {
     private static void swingToTheMost() {
         ModelTest t = pumped("swing to the most");
         int most = 0;
-        for (int n = 1; n <= 60; n++) {
-            t.ahead(n, 0, 3);
-            most = Math.max(most, t.x.ahead(n, 0, 4));
+        for (int i = 0; i < 4; i++) {
+            t.command(0, i % 2 == 0 ? 27 : -27);
+            for (int n = 0; n < 6; n++) {
+                t.tick(1);
+                t.crane(0, 4);
+                t.crane(0, 5);
+                most = Math.max(most, Math.abs(t.x.crane(0, 4) - SwingCranes.ZERO));
+            }
         }
         Check.due("the greatest swing", most, 9999);
     }
 
+    /** A long rope swings far, a short one fast: shortened, then driven against its rate tick by tick. */
     private static void rateToTheMost() {
-        ModelTest t = new ModelTest("rate to the most", 1);
-        t.write("e999;k9,40,40;c0,450,60,0;c1,999,60,0;");
-        t.lay();
-        for (int i = 0; i < 38; i++) {
-            t.command(0, i % 2 == 0 ? 27 : -27);
-            t.tick(6);
-        }
+        ModelTest t = pumped("rate to the most");
         t.target(0, 10);
         t.tick(50);
         int most = 0;

@@ -543,6 +543,7 @@ final class PromiseTest {
         due("12 behind an undone one", x.count(7), 2);
         due("12 the shaped one", x.undo(), 1);
         due("12 steps gone", x.crane(0, 9), 0);
+        due("12 ticks of one", x.count(6), 3);
         x.write('e');
         x.command(0, 41);
         x.target(0, 30);
@@ -555,6 +556,48 @@ final class PromiseTest {
         due("12 the text stays", x.count(8), 1);
         due("12 all the way", x.count(6), 0);
         due("12 lay of a fault undoes nothing", x.lay(), NO);
+        undoBringsAllBack();
+    }
+
+    private static void undoBringsAllBack() {
+        SwingCranes x = Check.laid("c0,240,39,12;c1,505,21,34;");
+        x.couple(20);
+        x.target(1, 50);
+        x.shape(0, -8, 17);
+        x.tick(9);
+        int[] before = lookedAt(x);
+        x.tick(30);
+        x.load(1, 78);
+        x.command(1, 6);
+        x.tick(5);
+        for (int more = 3; more >= 0; more--) {
+            due("12 four back", x.undo(), more);
+        }
+        int[] behind = lookedAt(x);
+        for (int i = 0; i < before.length; i++) {
+            due("12 all back, look " + i, behind[i], before[i]);
+        }
+    }
+
+    private static int[] lookedAt(SwingCranes x) {
+        int[] looks = new int[60];
+        int n = 0;
+        for (int c = 0; c < 2; c++) {
+            for (int what = 0; what <= 12; what++) {
+                looks[n++] = x.crane(c, what);
+            }
+            for (int k = 0; k < 3; k++) {
+                looks[n++] = x.stepOf(c, k, 0);
+                looks[n++] = x.stepOf(c, k, 1);
+                looks[n++] = x.spot(c, k, 0);
+                looks[n++] = x.spot(c, k, 2);
+            }
+            looks[n++] = x.spot(c, -1, 0);
+        }
+        looks[n++] = x.count(5);
+        looks[n++] = x.count(6);
+        looks[n++] = x.count(9);
+        return looks;
     }
 
     private static void crane() {
@@ -664,6 +707,14 @@ final class PromiseTest {
         spotIs(x, 0, 0, 0, 2, 4);
         due("17 not four", x.spot(0, 3, 2), NONE);
         due("17 of the other one", x.spot(1, -1, 0), 1);
+        x.target(0, 21);
+        x.command(0, 2);
+        x.tick(4);
+        // Once more with 20 and 21 in block 0, then past 50: 1, 2, 2 and 2 more from 46.
+        int blocks = x.spot(0, 0, 2) + x.spot(0, 1, 2) + x.spot(0, 2, 2);
+        due("17 all ticks are in three spots", blocks, 10);
+        spotIs(x, 0, 1, 1, 2, x.been(0, 1, 2));
+        due("17 the second has more", x.spot(0, 1, 2) > 1 ? 1 : 0, 1);
     }
 
     private static void spotIs(SwingCranes x, int c, int k, int block, int floor, int ticks) {
