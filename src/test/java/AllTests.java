@@ -9,6 +9,10 @@ public final class AllTests {
             RulesTest.runAll(args[0]);
         }
         PromiseTest.runAll();
+        TextEdgeTest.runAll();
+        TickEdgeTest.runAll();
+        TellEdgeTest.runAll();
+        RefusedTest.runAll();
         ModelTest.runAll();
         Check.tellAndEnd();
     }

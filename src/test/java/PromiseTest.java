@@ -565,7 +565,7 @@ final class PromiseTest {
         x.target(1, 50);
         x.shape(0, -8, 17);
         x.tick(9);
-        int[] before = lookedAt(x);
+        int[] before = Looks.at(x);
         x.tick(30);
         x.load(1, 78);
         x.command(1, 6);
@@ -573,31 +573,7 @@ final class PromiseTest {
         for (int more = 3; more >= 0; more--) {
             due("12 four back", x.undo(), more);
         }
-        int[] behind = lookedAt(x);
-        for (int i = 0; i < before.length; i++) {
-            due("12 all back, look " + i, behind[i], before[i]);
-        }
-    }
-
-    private static int[] lookedAt(SwingCranes x) {
-        int[] looks = new int[60];
-        int n = 0;
-        for (int c = 0; c < 2; c++) {
-            for (int what = 0; what <= 12; what++) {
-                looks[n++] = x.crane(c, what);
-            }
-            for (int k = 0; k < 3; k++) {
-                looks[n++] = x.stepOf(c, k, 0);
-                looks[n++] = x.stepOf(c, k, 1);
-                looks[n++] = x.spot(c, k, 0);
-                looks[n++] = x.spot(c, k, 2);
-            }
-            looks[n++] = x.spot(c, -1, 0);
-        }
-        looks[n++] = x.count(5);
-        looks[n++] = x.count(6);
-        looks[n++] = x.count(9);
-        return looks;
+        Looks.alike("12 all back", Looks.at(x), before);
     }
 
     private static void crane() {
