@@ -217,7 +217,6 @@ final class PromiseTest {
         due("6 it alone", x.stepOf(0, 0, 1), ZERO - 1);
         due("6 none for the same", x.command(0, 40), 1);
         due("6 no step of 0", x.crane(0, 9), 0);
-        due("6 that is a change, too", x.count(7), 4);
         SwingCranes y = new SwingCranes();
         y.command(1, 5);
         y.tick(1);

@@ -3,6 +3,7 @@ import java.util.function.Supplier;
 /** COMMANDS, STEPS, PAUSES, COUPLED, UNDONE, AHEAD, QUIET and BEST PAUSE at each boundary that the document names. */
 final class TellEdgeTest {
     private static final int BAD = -1, NO = -2, NONE = -4, ZERO = 100000;
+    private static final String[] SORTS = {"a command", "shaped", "a target", "a load", "coupled", "60 ticks"};
 
     private TellEdgeTest() {
     }
@@ -19,6 +20,8 @@ final class TellEdgeTest {
         coupledTargets();
         undoneUpToFour();
         eachSortIsUndone();
+        undoneOneBehindTheOther();
+        commandsOfNoStepAreChanges();
         undoneBehindLaid();
         aheadIsAsTicks();
         aheadOfBraked();
@@ -164,6 +167,13 @@ final class TellEdgeTest {
             x.shape(1, 2, -1);
             stepsAre("half a swing of rope " + a[0], x, 1, 1, 1, 1 + a[1], 1);
             due("as crane tells it, rope " + a[0], x.crane(1, 11), a[1]);
+        }
+        for (int c = 0; c < 2; c++) {
+            SwingCranes both = Check.laid("c0,100,40,0;c1,500,41,0;");
+            both.couple(c);
+            due("both of " + c, both.shape(c, 2, -1), 2);
+            stepsAre("0 by its own rope, told to " + c, both, 0, 1, 1, 6, 1);
+            stepsAre("1 by its own rope, told to " + c, both, 1, 1, 1, 7, 1);
         }
         SwingCranes x = Check.laid("c0,100,40,0;");
         x.target(0, 60);
@@ -325,23 +335,56 @@ final class TellEdgeTest {
         due("not five", y.undo(), NO);
     }
 
-    private static void eachSortIsUndone() {
-        SwingCranes x = new SwingCranes();
-        int[] fresh = Looks.at(x);
-        String[] sorts = {"a command", "shaped", "a target", "a load", "coupled", "60 ticks"};
-        for (int sort = 0; sort < sorts.length; sort++) {
-            SwingCranes y = new SwingCranes();
-            switch (sort) {
-                case 0: y.command(0, 9); break;
-                case 1: y.shape(0, 9, 20); break;
-                case 2: y.target(0, 60); break;
-                case 3: y.load(0, 99); break;
-                case 4: y.couple(0); break;
-                default: y.tick(60); break;
+    private static void change(SwingCranes x, int sort) {
+        switch (sort) {
+            case 0: x.command(0, 9); break;
+            case 1: x.shape(0, 9, 20); break;
+            case 2: x.target(0, 60); break;
+            case 3: x.load(0, 99); break;
+            case 4: x.couple(0); break;
+            default: x.tick(60); break;
+        }
+    }
+
+    /** Each sort behind an undone one of each sort: nothing is left of that. */
+    private static void undoneOneBehindTheOther() {
+        int[] fresh = Looks.at(new SwingCranes());
+        for (int first = 0; first < SORTS.length; first++) {
+            for (int second = 0; second < SORTS.length; second++) {
+                String when = SORTS[second] + " behind " + SORTS[first] + " undone";
+                SwingCranes x = new SwingCranes();
+                change(x, first);
+                x.undo();
+                change(x, second);
+                SwingCranes twin = new SwingCranes();
+                change(twin, second);
+                Looks.alike(when, Looks.at(x), Looks.at(twin));
+                due(when + ": undone", x.undo(), 0);
+                Looks.alike(when + ", undone", Looks.at(x), fresh);
+                due(when + ": no more", x.undo(), NO);
             }
-            due(sorts[sort] + " is one change", y.count(7), 1);
-            due(sorts[sort] + " undone", y.undo(), 0);
-            Looks.alike(sorts[sort] + " undone", Looks.at(y), fresh);
+        }
+    }
+
+    private static void commandsOfNoStepAreChanges() {
+        SwingCranes x = new SwingCranes();
+        x.command(0, 0);
+        due("a command of no step", x.count(7), 1);
+        x.shape(1, 0, 5);
+        due("shaped by no step", x.count(7), 2);
+        due("undone of no step", x.undo(), 1);
+        due("undone of no step, too", x.undo(), 0);
+        due("no more of no step", x.undo(), NO);
+    }
+
+    private static void eachSortIsUndone() {
+        int[] fresh = Looks.at(new SwingCranes());
+        for (int sort = 0; sort < SORTS.length; sort++) {
+            SwingCranes y = new SwingCranes();
+            change(y, sort);
+            due(SORTS[sort] + " is one change", y.count(7), 1);
+            due(SORTS[sort] + " undone", y.undo(), 0);
+            Looks.alike(SORTS[sort] + " undone", Looks.at(y), fresh);
         }
         SwingCranes z = new SwingCranes();
         z.couple(0);
@@ -355,6 +398,13 @@ final class TellEdgeTest {
         due("both steps undone", z.undo(), 1);
         due("no step of 0", z.crane(0, 9), 0);
         due("no step of 1", z.crane(1, 9), 0);
+        z.shape(0, 9, 4);
+        z.tick(3);
+        stepsAre("gone by", z, 0, 2, 5);
+        z.undo();
+        stepsAre("to come again", z, 0, 1, 4, 5, 5);
+        z.undo();
+        stepsAre("not told", z, 0);
         z.write('x');
         due("text is no change", z.count(7), 1);
         due("undone behind a letter", z.undo(), 0);
@@ -407,6 +457,9 @@ final class TellEdgeTest {
             due("ahead 61", x.ahead(61, c, 0), BAD);
             due("ahead 0", x.ahead(0, c, 0), BAD);
         }
+        SwingCranes z = new SwingCranes();
+        due("no swing in 1", z.ahead(1, 0, 4), 0);
+        due("no swing in 60", z.ahead(60, 1, 4), 0);
         SwingCranes y = new SwingCranes();
         y.command(0, 2);
         y.tick(1);
@@ -480,12 +533,12 @@ final class TellEdgeTest {
     }
 
     private static SwingCranes coupledUnlike(int level) {
-        SwingCranes x = Check.laid("k2,20,2;c0,100,30,0;c1,500,31,0;");
+        SwingCranes x = Check.laid("k1,20,2;c0,100,30,0;c1,500,29,0;");
         x.command(0, 12);
         x.command(1, -2);
-        x.tick(4);
-        x.target(0, 45);
-        x.target(1, 45);
+        x.tick(8);
+        x.target(0, 10);
+        x.target(1, 10);
         x.couple(level);
         return x;
     }
@@ -496,6 +549,9 @@ final class TellEdgeTest {
             quietIs("0 at level " + l, () -> coupledUnlike(l), 0);
             quietIs("1 at level " + l, () -> coupledUnlike(l), 1);
         }
+        // Was 0 not told COMMAND 0 as well, its rope would hold that of 1: NONE and 51.
+        due("quiet of 1 at level 1", coupledUnlike(1).quiet(1), 18);
+        due("quiet of 1 at level 2", coupledUnlike(2).quiet(1), 23);
     }
 
     /** Each pause on an object of its own, tick by tick. */
@@ -527,6 +583,13 @@ final class TellEdgeTest {
         return Check.laid("e999;c1,999,30,0;" + text);
     }
 
+    private static SwingCranes ranFor(int rope, int speed, int ticks) {
+        SwingCranes x = still("k1,40,6;c0,100," + rope + ",0;");
+        x.command(0, speed);
+        x.tick(ticks);
+        return x;
+    }
+
     private static void bestOfAllPauses() {
         bestIs("all alike", SwingCranes::new, 0, 0, 0, 0);
         bestIs("all alike of 1", SwingCranes::new, 1, 0, 0, 0);
@@ -534,6 +597,10 @@ final class TellEdgeTest {
         bestIs("the greatest pause", () -> still("k1,40,6;c0,100,30,0;"), 0, 38, 20, 16);
         bestIs("the greatest but one", () -> still("k1,40,6;c0,100,60,0;"), 0, 6, 19, 0);
         bestIs("below 0", () -> still("k1,40,6;c0,900,60,0;"), 0, -6, 19, 0);
+        bestIs("no pause", () -> ranFor(50, 5, 1), 0, 0, 0, 4);
+        bestIs("the least pause", () -> ranFor(20, 1, 2), 0, 2, 1, 2);
+        bestIs("of 1, 8 and 15 the lowest", () -> ranFor(20, 1, 6), 0, 0, 1, 0);
+        bestIs("of 5 and 15 the lowest", () -> still("k1,40,6;c0,100,33,0;"), 0, 2, 5, 0);
         SwingCranes x = new SwingCranes();
         due("most", x.best(0, 40, 0) >= 0 ? 1 : 0, 1);
         due("one more", x.best(0, 41, 0), BAD);

@@ -25,6 +25,7 @@ final class TextEdgeTest {
         bothAtPlacesToEnd();
         gapOrMoreAbove();
         faultChangesNothing();
+        aTextReadAheadIsForgotten();
         theTextStaysWhenLaid();
     }
 
@@ -215,6 +216,9 @@ final class TextEdgeTest {
         SwingCranes y = Check.laid("c0,7,11,3;c0,8,12,4;c0,9,13,5;");
         due("of three the last", y.crane(0, 0), 9);
         due("the other one is as without", y.crane(1, 0), 500);
+        SwingCranes z = Check.laid("c0,9,60,99;k9,40,40;c0,0,10,0;k1,1,0;");
+        itemIs("all numbers of the last: ", z, 3, new int[] {0, 10, 0});
+        itemIs("all numbers of the last: ", z, 2, new int[] {1, 1, 0});
         due("greater ones ahead don't count", Check.laid("e999;e601;").count(0), 601);
         due("a first c that is not to be LAID doesn't count", Check.laid("c1,100,30,0;c1,140,30,0;").crane(1, 0), 140);
     }
@@ -302,6 +306,23 @@ final class TextEdgeTest {
         x.tick(9);
         due("the speed behind fault", x.crane(0, 1), SwingCranes.ZERO + 13);
         due("stop behind fault", x.stop(6), 9);
+    }
+
+    private static void aTextReadAheadIsForgotten() {
+        SwingCranes x = new SwingCranes();
+        for (int i = 0; i < 3; i++) {
+            Check.writeAll(x, "e999;g99;k9,40,40;c0,1,10,99;c1,998,60,98;");
+            due("read", x.fault(), NONE);
+            x.wipe();
+            due("laid without", x.lay(), 600);
+            int[][] without = {{600}, {40}, {2, 12, 6}, {100, 30, 0}, {500, 30, 0}};
+            for (int item = 0; item < without.length; item++) {
+                itemIs("read, then wiped: ", x, item, without[item]);
+            }
+            Check.writeAll(x, "e999;g99;k9,40,40;c0,1,10,99;c1,998,60,98;k0,0,0;");
+            due("not laid", x.lay(), NO);
+            x.wipe();
+        }
     }
 
     private static void theTextStaysWhenLaid() {

@@ -26,6 +26,7 @@ final class TickEdgeTest {
         levelOfNone();
         spotsAtTheirEdges();
         spotsInTheirOrder();
+        allSpotsOfABeam();
         quietAtItsEdges();
         noMoreThan9999();
     }
@@ -530,6 +531,10 @@ final class TickEdgeTest {
         due("not the block beside, " + text, x.been(1, block + 1, floor), 0);
         due("not the floor beside, " + text, x.been(1, block, floor + 1), 0);
         due("not the other way round, " + text, x.been(1, floor, block), block == floor ? 61 : 0);
+        if (block > 0) {
+            due("not the block before with the greatest floor, " + text, x.been(1, block - 1, 99), 0);
+            due("nor with one less, " + text, x.been(1, block - 1, 98), 0);
+        }
         due("not the least, " + text, x.been(1, 0, 0), 0);
         due("not the greatest, " + text, x.been(1, 99, 99), 0);
     }
@@ -573,6 +578,33 @@ final class TickEdgeTest {
         x.command(0, 0);
         x.tick(1);
         spotIs("on from there", x, 0, 1, 2, 2, 4);
+    }
+
+    /** To and fro, with the next floor of the rope each time: 20 blocks with 6 floors each. */
+    private static void allSpotsOfABeam() {
+        SwingCranes x = Check.laid("e999;g10;k9,40,40;c0,0,10,0;c1,999,30,0;");
+        for (int floor = 1; floor <= 6; floor++) {
+            x.command(0, floor % 2 == 1 ? 40 : -40);
+            x.tick(40);
+            x.target(0, Math.min(10 * floor + 10, 60));
+            x.tick(10);
+        }
+        due("all spots", x.spot(0, -1, 0), 120);
+        int[] had = new int[120];
+        int ticks = 0;
+        for (int k = 0; k < 120; k++) {
+            int block = x.spot(0, k, 0);
+            int floor = x.spot(0, k, 1);
+            had[block * 6 + floor - 1]++;
+            ticks += x.spot(0, k, 2);
+        }
+        for (int spot = 0; spot < had.length; spot++) {
+            due("had once, spot " + spot, had[spot], 1);
+        }
+        due("each tick is in one of them", ticks, 300);
+        due("no more", x.spot(0, 120, 0), NONE);
+        due("the other stands", x.spot(1, -1, 0), 1);
+        due("the other's ticks", x.been(1, 19, 3), 300);
     }
 
     private static void quietIs(int rope, int w, int ticks, int swing, int rate, int quiet) {
