@@ -26,6 +26,7 @@ final class TextEdgeTest {
         gapOrMoreAbove();
         faultChangesNothing();
         aTextReadAheadIsForgotten();
+        wipedLettersAreGone();
         theTextStaysWhenLaid();
     }
 
@@ -323,6 +324,29 @@ final class TextEdgeTest {
             due("not laid", x.lay(), NO);
             x.wipe();
         }
+    }
+
+    /** Each item wiped, then written anew but for its last letters, which are not there any more. */
+    private static void wipedLettersAreGone() {
+        String[] items = {"e300;", "g40;", "c0,100,30,0;", "c1,500,30,0;", "k2,12,6;"};
+        for (String item : items) {
+            for (int letters = 1; letters < item.length(); letters++) {
+                SwingCranes x = new SwingCranes();
+                Check.writeAll(x, item + "g50;");
+                due("not yet wiped, " + item, x.fault(), NONE);
+                x.wipe();
+                Check.writeAll(x, item.substring(0, letters));
+                due("wiped, then " + item.substring(0, letters), x.fault(), 0);
+            }
+        }
+        SwingCranes y = new SwingCranes();
+        Check.writeAll(y, "g50;x");
+        y.wipe();
+        due("a fault wiped", y.fault(), NONE);
+        Check.writeAll(y, "g60;");
+        due("a fault behind what is written anew", y.fault(), NONE);
+        due("laid", y.lay(), 600);
+        due("as written anew", y.count(1), 60);
     }
 
     private static void theTextStaysWhenLaid() {

@@ -26,6 +26,7 @@ final class TickEdgeTest {
         levelOfNone();
         spotsAtTheirEdges();
         spotsInTheirOrder();
+        spotsHadAnewInAnotherOrder();
         allSpotsOfABeam();
         quietAtItsEdges();
         noMoreThan9999();
@@ -578,6 +579,37 @@ final class TickEdgeTest {
         x.command(0, 0);
         x.tick(1);
         spotIs("on from there", x, 0, 1, 2, 2, 4);
+    }
+
+    private static void spotsHadAnewInAnotherOrder() {
+        SwingCranes x = Check.laid("k1,1,1;c0,98,29,0;");
+        x.command(0, 1);
+        x.tick(4);
+        due("two had", x.spot(0, -1, 0), 2);
+        Check.writeAll(x, "c0,100,29,0;");
+        x.lay();
+        due("none had when LAID", x.spot(0, -1, 0), 0);
+        due("nor the first", x.spot(0, 0, 0), NONE);
+        due("nor been there", x.been(0, 2, 2), 0);
+        x.tick(3);
+        due("one had", x.spot(0, -1, 0), 1);
+        spotIs("the second one is the first now", x, 0, 0, 2, 2, 3);
+        due("not been in the other", x.been(0, 1, 2), 0);
+        x.command(0, -1);
+        x.tick(2);
+        due("two had again", x.spot(0, -1, 0), 2);
+        spotIs("the first one is the second now", x, 0, 1, 1, 2, 2);
+        x.undo();
+        x.undo();
+        x.undo();
+        x.target(0, 30);
+        x.tick(1);
+        due("another one had behind undone ones", x.spot(0, -1, 0), 1);
+        spotIs("another one", x, 0, 0, 2, 3, 1);
+        x.target(0, 28);
+        x.tick(5);
+        spotIs("an undone one had behind it", x, 0, 1, 2, 2, 5);
+        due("no third", x.spot(0, 2, 2), NONE);
     }
 
     /** To and fro, with the next floor of the rope each time: 20 blocks with 6 floors each. */
