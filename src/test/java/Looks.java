@@ -3,11 +3,31 @@
  * be looked at behind each of four undone changes and is called no more often than the document promises.
  */
 final class Looks {
+    private static final int OF_A_CRANE = 29;
+    /** Looks from this one on try ahead, so that all that a change changes may show in them. */
+    static final int AHEAD = 68;
+
     private Looks() {
     }
 
+    static int ofCrane(int c, int what) {
+        return c * OF_A_CRANE + what;
+    }
+
+    static int ofStep(int c, int k, int what) {
+        return c * OF_A_CRANE + 13 + 5 * k + what;
+    }
+
+    static int ofCount(int what) {
+        return 2 * OF_A_CRANE + (what > 7 ? what - 1 : what);
+    }
+
+    static int ofFault() {
+        return AHEAD - 1;
+    }
+
     static int[] at(SwingCranes x) {
-        int[] looks = new int[74];
+        int[] looks = new int[73];
         int n = 0;
         for (int c = 0; c < 2; c++) {
             for (int what = 0; what <= 12; what++) {
